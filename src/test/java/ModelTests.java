@@ -5,7 +5,7 @@ import java.util.Random;
 
 /** Runs of random calls, each answer beside that of a model that counts every fall instead of reckoning. */
 public final class ModelTests {
-    private static final int RUNS = 3000, CALLS = 250;
+    private static final int RUNS = 1000, CALLS = 250;
     private static final String KINDS = "dhtlb";
 
     public static void main(String[] args) {

@@ -147,6 +147,7 @@ public final class PromiseTests {
         due("things", inHall("j1,b2,s3,b4,j5,j6;tl").count(0), 6);
 
         KingdomAtDice x = inHall("j5,s3;dt");
+        x.play(0, NONE, 12, 2);
         lose(x, 1);
         lose(x, 0);
         x.see(7);
@@ -155,7 +156,7 @@ public final class PromiseTests {
         due("hall()", x.hall(), STATE);
         due("count(0)", x.count(0), 2);
         due("count(1)", x.count(1), 0);
-        due("restore()", x.restore(), 2);
+        due("restore()", x.restore(), 3);
         write(x, ",b4;bl");
         due("hall()", x.hall(), 3);
         due("count(7): the page is empty", x.count(7), 0);
@@ -170,6 +171,9 @@ public final class PromiseTests {
         due("thing(0, 5)", x.thing(0, 5), 0);
         due("dice(0, 0)", x.dice(0, 0), 4);
         due("dice(1, 0)", x.dice(1, 0), 3);
+        due("odds(0)", x.odds(0), 1);
+        due("odds(2)", x.odds(2), 0);
+        due("odds(5)", x.odds(5), 1);
         due("restore(): another hall", x.restore(), STATE);
     }
 
@@ -213,6 +217,12 @@ public final class PromiseTests {
         due("now rightly", x.thing(1, 4), 1);
         due("went over 1", x.thing(1, 5), 3);
         due("went over 0", x.thing(0, 5), 0);
+
+        KingdomAtDice first = inHall("s5,j5;dd");
+        lose(first, 0);
+        lose(first, 1);
+        due("self of number 0, rightly", first.thing(0, 4), 1);
+        due("behind it, not rightly", first.thing(1, 4), 0);
 
         KingdomAtDice selfless = inHall("j9,b5;dd");
         lose(selfless, 0);
@@ -516,6 +526,15 @@ public final class PromiseTests {
         due("likely() of eight 7", seen(7, 7, 7, 7, 7, 7, 7, 7).likely(), 0);
     }
 
+    /** Answers that a few lines of another language gave. */
+    private static void hallsAre(String kinds, int throwMany, int seed, int things, int gold, int then) {
+        KingdomAtDice x = inHall("j4,b7,s2,j9,j1,b3;" + kinds);
+        String call = kinds + " halls(" + throwMany + ", " + seed + ", ";
+        due(call + "0)", x.halls(throwMany, seed, 0), things);
+        due(call + "1)", x.halls(throwMany, seed, 1), gold);
+        due(call + "2)", x.halls(throwMany, seed, 2), then);
+    }
+
     private static void halls() {
         promise = 18;
         KingdomAtDice x = inHall("j4,b7;lb");
@@ -534,6 +553,18 @@ public final class PromiseTests {
         rich.play(1, NONE, 12, 2);
         due("gold of before and the first one's", rich.halls(60, 5, 1), 7 + 60 * 4);
         due("all are left", rich.halls(60, 5, 0), 2);
+
+        hallsAre("dd", 7, 3, 2, 15, 1689338439);
+        hallsAre("hd", 7, 3, 4, 10, 1689338439);
+        hallsAre("tt", 7, 3, 5, 22, 1092185389);
+        hallsAre("td", 9, 2026, 0, 13, 2109021689);
+        hallsAre("dt", 7, 3, 3, 15, 467868636);
+        hallsAre("ll", 9, 2026, 1, 8, 175688214);
+        hallsAre("hb", 9, 2026, 0, 3, 483774782);
+        KingdomAtDice wronged = inHall("j4,s2,b7;dd");
+        lose(wronged, 1);
+        lose(wronged, 0);
+        due("what only a law would give is not staked", wronged.halls(4, 11, 1), 14);
 
         KingdomAtDice twins = inHall("j4,b7;tl");
         // From 0 the seeds are 12345, 1406932606, 654583775: draws 0 of 6, 0 and 1 of 3: 2 by 3.
@@ -607,6 +638,10 @@ public final class PromiseTests {
         for (int what = 0; what <= 8; what++) {
             due("count(" + what + ")", x.count(what), told[what]);
         }
+        KingdomAtDice wronged = inHall("j4,s2;dd");
+        lose(wronged, 1);
+        lose(wronged, 0);
+        due("one of number 0 was not lost rightly", wronged.count(5), 1);
         x.play(3, 1, 12, 2);
         due("what is won back is not counted", x.count(5), 0);
         int[] outside = {-1, 9, MIN, MAX};
