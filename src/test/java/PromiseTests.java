@@ -1,40 +1,5 @@
 /** For each promise of the document: ordinary inputs, the edges it names, wrong inputs. Answers are worked out by hand. */
-public final class PromiseTests {
-    private static final int NONE = -1, UNKNOWN = -101, OUTSIDE = -102, STATE = -103, FULL = -104;
-    private static final int MIN = Integer.MIN_VALUE, MAX = Integer.MAX_VALUE;
-    private static int wrong = 0;
-    private static int promise = 0;
-
-    private static void due(String call, long got, long want) {
-        if (got != want) {
-            wrong++;
-            System.out.println("promise " + promise + ": " + call + " answered " + got + ", due is " + want);
-        }
-    }
-
-    private static void write(KingdomAtDice x, String text) {
-        for (int i = 0; i < text.length(); i++) {
-            x.letter(text.charAt(i));
-        }
-    }
-
-    private static KingdomAtDice page(String text) {
-        KingdomAtDice x = new KingdomAtDice();
-        write(x, text);
-        return x;
-    }
-
-    private static KingdomAtDice inHall(String text) {
-        KingdomAtDice x = page(text);
-        due("hall() of " + text, x.hall(), (text.length() - 2) / 3);
-        return x;
-    }
-
-    /** The king loses a thing, with dice d or h or t or b of the cousin and d or h or t of the king. */
-    private static void lose(KingdomAtDice x, int thing) {
-        due("play(" + thing + ", NONE, 4, 12)", x.play(thing, NONE, 4, 12), 1);
-    }
-
+public final class PromiseTests extends Dues {
     public static void main(String[] args) {
         newObject();
         letter();
@@ -59,14 +24,11 @@ public final class PromiseTests {
         restore();
         count();
         digest();
-        System.out.println(wrong == 0 ? "all answers are as due" : wrong + " answers are not as due");
-        if (wrong != 0) {
-            System.exit(1);
-        }
+        end();
     }
 
     private static void newObject() {
-        promise = 1;
+        about("promise 1");
         KingdomAtDice x = new KingdomAtDice();
         for (int what = 0; what <= 8; what++) {
             due("count(" + what + ")", x.count(what), 0);
@@ -91,7 +53,7 @@ public final class PromiseTests {
     }
 
     private static void letter() {
-        promise = 2;
+        about("promise 2");
         KingdomAtDice x = new KingdomAtDice();
         int[] outside = {0, -1, 127, MIN, MAX};
         for (int code : outside) {
@@ -108,7 +70,7 @@ public final class PromiseTests {
     }
 
     private static void blank() {
-        promise = 3;
+        about("promise 3");
         KingdomAtDice x = page("j1,");
         due("blank()", x.blank(), 3);
         due("blank()", x.blank(), 0);
@@ -118,7 +80,7 @@ public final class PromiseTests {
     }
 
     private static void fault() {
-        promise = 4;
+        about("promise 4");
         Object[][] pages = {
             {"", 0}, {"j", 1}, {"x", 0}, {"J", 0}, {"1", 0}, {"j0", 1}, {"jj", 1}, {"j9", 2},
             {"j1;", 2}, {"j1,;", 3}, {"j1,b2;", 6}, {"j1,b2,", 6}, {"j1,b2;;", 6}, {"j1,b2;d", 7},
@@ -134,7 +96,7 @@ public final class PromiseTests {
     }
 
     private static void hall() {
-        promise = 5;
+        about("promise 5");
         String[] none = {"", "j1", "j1;dd", "j1,b2", "j1,b2;", "j1,b2;d", "j1,b2;ddd", "s1,s2;dd", "j0,b2;dd",
             "j1,j1,j1,j1,j1,j1,j1;dd", "j1,b2;dj", "j1,b2;;;", ";dd", "j1,b2,;dd"};
         for (String text : none) {
@@ -178,7 +140,7 @@ public final class PromiseTests {
     }
 
     private static void thing() {
-        promise = 6;
+        about("promise 6");
         KingdomAtDice x = inHall("j9,b5,s1;dd");
         for (int thing = 0; thing < 3; thing++) {
             due("sort of " + thing, x.thing(thing, 0), thing);
@@ -231,7 +193,7 @@ public final class PromiseTests {
     }
 
     private static void dice() {
-        promise = 7;
+        about("promise 7");
         int[][] told = {{0, 2, 12, 36}, {1, 4, 12, 25}, {2, 2, 12, 6}, {3, 2, 6, 9}, {4, 8, 12, 9}};
         for (int kind = 0; kind < 5; kind++) {
             String letter = "dhtlb".substring(kind, kind + 1);
@@ -252,7 +214,7 @@ public final class PromiseTests {
     }
 
     private static void as() {
-        promise = 8;
+        about("promise 8");
         boolean[][] is = {
             {true, false, false, false, false},
             {true, true, false, false, false},
@@ -276,7 +238,7 @@ public final class PromiseTests {
     }
 
     private static void ways() {
-        promise = 9;
+        about("promise 9");
         int[][] ways = {
             {1, 2, 3, 4, 5, 6, 5, 4, 3, 2, 1},
             {0, 0, 1, 2, 3, 4, 5, 4, 3, 2, 1},
@@ -301,7 +263,7 @@ public final class PromiseTests {
     }
 
     private static void play() {
-        promise = 10;
+        about("promise 10");
         KingdomAtDice x = inHall("j4,b7,s6;dd");
         due("alike", x.play(0, NONE, 7, 7), NONE);
         due("alike is a throw", x.count(4), 1);
@@ -376,7 +338,7 @@ public final class PromiseTests {
     }
 
     private static void odds() {
-        promise = 11;
+        about("promise 11");
         oddsOf("tt", 5, 12, 5, 12, 1, 6);
         oddsOf("ll", 31, 81, 31, 81, 19, 81);
         oddsOf("bb", 31, 81, 31, 81, 19, 81);
@@ -399,7 +361,7 @@ public final class PromiseTests {
     }
 
     private static void back() {
-        promise = 12;
+        about("promise 12");
         KingdomAtDice x = inHall("j5,j3,b4,b4;tt");
         due("it is the king's", x.back(2, 1, 0), STATE);
         lose(x, 2);
@@ -436,7 +398,7 @@ public final class PromiseTests {
     }
 
     private static void laws() {
-        promise = 13;
+        about("promise 13");
         KingdomAtDice x = inHall("j1,b2,s3,j4,b5,j6;dd");
         for (int law = 0; law < 4; law++) {
             lawIs(x, law, 63, 21);
@@ -459,7 +421,7 @@ public final class PromiseTests {
     }
 
     private static void see() {
-        promise = 14;
+        about("promise 14");
         KingdomAtDice x = new KingdomAtDice();
         int[] outside = {1, 13, 0, -2, MIN, MAX};
         for (int sum : outside) {
@@ -476,7 +438,7 @@ public final class PromiseTests {
     }
 
     private static void forget() {
-        promise = 15;
+        about("promise 15");
         KingdomAtDice x = new KingdomAtDice();
         x.see(3);
         x.see(4);
@@ -487,16 +449,8 @@ public final class PromiseTests {
         due("see(8)", x.see(8), 1);
     }
 
-    private static KingdomAtDice seen(int... sums) {
-        KingdomAtDice x = new KingdomAtDice();
-        for (int sum : sums) {
-            x.see(sum);
-        }
-        return x;
-    }
-
     private static void which() {
-        promise = 16;
+        about("promise 16");
         due("which() of none", seen().which(), 31);
         due("which() of 2", seen(2).which(), 1 + 4 + 8);
         due("which() of 4", seen(4).which(), 1 + 2 + 4 + 8);
@@ -509,7 +463,7 @@ public final class PromiseTests {
     }
 
     private static void likely() {
-        promise = 17;
+        about("promise 17");
         due("likely() of none", seen().likely(), 0);
         due("likely() of 7: 6 of 36, 4 of 25", seen(7).likely(), 0);
         due("likely() of 8: 5 of 25", seen(8).likely(), 1);
@@ -536,7 +490,7 @@ public final class PromiseTests {
     }
 
     private static void halls() {
-        promise = 18;
+        about("promise 18");
         KingdomAtDice x = inHall("j4,b7;lb");
         // The king always loses: both things are gone by two throws of four draws each.
         long seed = 77;
@@ -582,7 +536,7 @@ public final class PromiseTests {
     }
 
     private static void image() {
-        promise = 19;
+        about("promise 19");
         due("image() without a hall", new KingdomAtDice().image(), STATE);
         KingdomAtDice x = inHall("j4,b7;dd");
         due("image()", x.image(), 0);
@@ -594,7 +548,7 @@ public final class PromiseTests {
     }
 
     private static void restore() {
-        promise = 20;
+        about("promise 20");
         KingdomAtDice x = inHall("j4,b7,s2;dd");
         due("none was kept", x.restore(), STATE);
         lose(x, 0);
@@ -625,7 +579,7 @@ public final class PromiseTests {
     }
 
     private static void count() {
-        promise = 21;
+        about("promise 21");
         KingdomAtDice x = inHall("j4,b7,s2,b9;dd");
         x.play(3, NONE, 12, 2);
         lose(x, 0);
@@ -684,7 +638,7 @@ public final class PromiseTests {
     }
 
     private static void digest() {
-        promise = 22;
+        about("promise 22");
         // (983 times 31 and 31) times 31, then nine zeros.
         long fresh = (983L * 31 + 31) * 31;
         for (int i = 0; i < 9; i++) {
