@@ -164,6 +164,9 @@ public final class SeenEdgeTests extends Dues {
         hallsAre(sixThings("hb"), 1, 0, 5, 0, 1449466924);
         hallsAre(sixThings("td"), 1, MAX, 6, 4, 646343466);
         hallsAre(sixThings("lt"), 1, MAX, 5, 0, 646343466);
+        // From 1: TWINS 6 by DICE 9; from the greatest SEED DICE 12 by TWINS 10.
+        hallsAre(sixThings("td"), 1, 1, 5, 0, 662824084);
+        hallsAre(sixThings("dt"), 1, MAX, 6, 4, 646343466);
     }
 
     @Sentence(promise = 0, says = "how many THINGS are the KING's then; how much GOLD he has then")
